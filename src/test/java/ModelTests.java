@@ -6,11 +6,12 @@ import java.util.TreeSet;
 
 /**
  * Runs of calls, drawn with fixed seeds, on the class and on a plain model of the document.
- * Every answer, every exception's exact class, and the whole state after each call must agree.
+ * Every answer, every exception's exact class, and the digest after each call must agree.
  */
 public final class ModelTests {
-    private static final int RUNS = 60;
-    private static final int CALLS = 512;
+    private static final int RUNS = 160;
+    // With a digest after each call, and the whole state at the end, these are less than 512 calls.
+    private static final int CALLS = 190;
     private static final int[] WILD = {Integer.MIN_VALUE, Integer.MIN_VALUE + 1, -100001, -100000, -33, -1, 0, 1, 3, 4,
         5, 6, 15, 16, 19, 20, 23, 24, 31, 32, 33, 95, 96, 97, 100, 101, 99999, 100000, 100001, 131072,
         Integer.MAX_VALUE - 1, Integer.MAX_VALUE};
@@ -88,20 +89,25 @@ public final class ModelTests {
         }
     }
 
-    private static void compareState(String where, ColumnChooser x, Model m) {
+    private static void compareDigest(String where, ColumnChooser x, Model m) {
         long due = m.digest();
-        if (x.digest() != due) {
-            fail(where + ": digest " + x.digest() + ", due is " + due);
+        long got = x.digest();
+        if (got != due) {
+            fail(where + ": digest " + got + ", due is " + due);
         }
+    }
+
+    private static void compareState(String where, ColumnChooser x, Model m) {
+        compareDigest(where, x, m);
         if (x.rows() != m.column.size() || x.segmentCount() != m.segmentCount() || x.size() != m.size()) {
             fail(where + ": rows, segmentCount or size");
         }
-        for (int i = 0; i < m.column.size() && i < x.rows(); i++) {
+        for (int i = 0; i < m.column.size() && wrong == 0; i++) {
             if (x.value(i) != m.column.get(i)) {
                 fail(where + ": value(" + i + ") " + x.value(i) + ", due is " + m.column.get(i));
             }
         }
-        for (int q = 0; q < m.queries.size(); q++) {
+        for (int q = 0; q < m.queries.size() && wrong == 0; q++) {
             if (x.answer(q) != m.answer(q)) {
                 fail(where + ": answer(" + q + ") " + x.answer(q) + ", due is " + m.answer(q));
             }
@@ -147,9 +153,10 @@ public final class ModelTests {
                 if (!got.equals(due)) {
                     fail(where + ": answered " + got + ", due is " + due);
                 }
-                if (call % 8 == 0 || due.startsWith("throws")) {
-                    compareState(where, x, model);
-                }
+                compareDigest(where, x, model);
+            }
+            if (wrong == 0) {
+                compareState("run " + run + " at its end", x, model);
             }
         }
 
