@@ -725,6 +725,11 @@ public final class PromiseBoundaries extends Sentences {
         due("choose() again", x.choose(), 0);
         due("choose() of no rows", new ColumnChooser().choose(), 0);
         due("choose() of one row", segmentOf(5).choose(), 0);
+        ColumnChooser cut = constants(24);
+        cut.cut(4);
+        due("choose() when the last segment was cut", cut.choose(), 0);
+        cut.cut(92);
+        due("choose() when all segments were cut", cut.choose(), 0);
     }
 
     private static int[] repeated(int first, int second) {
